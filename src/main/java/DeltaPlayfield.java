@@ -168,8 +168,8 @@ public final class DeltaPlayfield {
         Client asked = clients[client];
         int reached = asked.newest == 0 ? asked.start : asked.shown[client];
         int unseen = asked.unseenCommands();
-        for (int i = 1; i <= unseen; i++) {
-            reached = field.after(reached, asked.commandAt(asked.seen + i));
+        for (int i = 0; i < unseen; i++) {
+            reached = field.after(reached, asked.commandAt(asked.seen + 1 + i));
         }
         return reached;
     }

@@ -131,6 +131,10 @@ public final class Promise06TickTest {
             sizeAt(checks, "a step from the base in direction " + d, lonely(3, 3, d), 1, 24 + 1 + 6 + 4);
             sizeAt(checks, "two steps from the base", lonely(3, 3, d), 2, 24 + 1 + 6 + 11);
         }
+        for (int age = 1; age <= 6; age++) {
+            int own = age == 6 ? 3 : age == 1 ? 4 : 11;
+            sizeAt(checks, "seen at the base " + age + " ticks ago", lonely(1, 1, 0), age, 24 + 1 + 6 + own);
+        }
         DeltaPlayfield blocked = lonely(1, 1, 0);
         blocked.wall(2, 1);
         blocked.wall(0, 1);

@@ -4,6 +4,7 @@ public final class Promise14PredictedTest {
         startsWherePlayerStood(checks);
         staysThereUntilASnapshotIsTaken(checks);
         goesOnFromTheSnapshot(checks);
+        knowsTheSnapshotAlone(checks);
         isBlockedLikeAPlayer(checks);
         doesTwelveCommands(checks);
         refusesWrongClients(checks);
@@ -52,6 +53,22 @@ public final class Promise14PredictedTest {
             checks.due("SEEN", t, x.count(1, 1));
             checks.due("predicted(1)", 0x57, x.predicted(1));
         }
+    }
+
+    private static void knowsTheSnapshotAlone(Checks checks) {
+        DeltaPlayfield x = new DeltaPlayfield();
+        x.input(0, 1);
+        x.input(0, 1);
+        x.input(0, 1);
+        Checks.sendReport(x, 0);
+        x.tick();
+        x.deliver(0);
+        x.tick();
+        x.tick();
+        checks.due("position(0)", 48, x.position(0));
+        checks.due("predicted(0) while the server is ahead", 48, x.predicted(0));
+        x.input(0, 0);
+        checks.due("predicted(0) while the server is ahead", 49, x.predicted(0));
     }
 
     private static void isBlockedLikeAPlayer(Checks checks) {
