@@ -46,11 +46,14 @@ final class Checks {
     }
 
     void same(String what, String before, DeltaPlayfield x) {
-        String after = stateOf(x);
+        alike(what + " changed the state", before, stateOf(x));
+    }
+
+    void alike(String otherwise, String want, String got) {
         made++;
-        if (!before.equals(after)) {
+        if (!want.equals(got)) {
             wrong++;
-            System.out.println(what + " changed the state\n  from" + before + "\n  to  " + after);
+            System.out.println(otherwise + "\n  from" + want + "\n  to  " + got);
         }
     }
 
