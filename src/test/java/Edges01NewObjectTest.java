@@ -78,5 +78,7 @@ public final class Edges01NewObjectTest {
             x.deliver(0);
             checks.same("the new object", before, used);
         }
+        // The walls of the others do not show in what can be asked.
+        noWalls(checks);
     }
 }

@@ -5,6 +5,7 @@ public final class Edges07DeliverTest {
         everyPlaceCanBeTakenOut(checks);
         beyondThePlacesIsNone(checks);
         aDroppedSnapshotIsTakenOut(checks);
+        aRepeatedSnapshotIsDropped(checks);
         aReportIsNeverDropped(checks);
         getsToItsOwnReceiver(checks);
         checks.end();
@@ -63,6 +64,19 @@ public final class Edges07DeliverTest {
             checks.same("a dropped snapshot, other than a lost one,", Checks.stateOf(lost), x);
             checks.due("deliver of the copy of tick 1", 0, x.deliver(2));
             checks.due("flight()", 4, x.flight());
+        }
+    }
+
+    /** The same snapshot twice: the first is taken, the second is dropped. */
+    private static void aRepeatedSnapshotIsDropped(Checks checks) {
+        for (int c = 0; c < 3; c++) {
+            DeltaPlayfield x = new DeltaPlayfield();
+            x.tick();
+            x.copy(c);
+            checks.due("deliver of tick 1", 1, x.deliver(c));
+            checks.due("deliver of tick 1 again", 0, x.deliver(2));
+            checks.due("flight()", 2, x.flight());
+            checks.due("NEWEST", 1, x.count(c, 4));
         }
     }
 
