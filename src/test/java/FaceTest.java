@@ -29,6 +29,7 @@ public final class FaceTest {
         checks.yes("the class is final", Modifier.isFinal(DeltaPlayfield.class.getModifiers()));
         checks.due("constructors", 1, DeltaPlayfield.class.getDeclaredConstructors().length);
         checks.due("public constructors", 1, DeltaPlayfield.class.getConstructors().length);
+        checks.due("NONE", -1, DeltaPlayfield.NONE);
         methods(checks);
         fields(checks);
         nestedClasses(checks);
